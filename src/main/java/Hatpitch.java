@@ -579,7 +579,6 @@ public final class Hatpitch {
             return Math.abs(yard - other.yard);
         }
 
-        /** How loud the act that plays here is at the other pitch; one needs to play. */
         int loudnessAt(Pitch other, Act act) {
             return 10 * act.loudness + echo - yardsTo(other);
         }

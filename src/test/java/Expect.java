@@ -35,20 +35,31 @@ final class Expect {
         }
     }
 
-    /** The call has to throw just this exception, and to leave the street as it was. */
+    /** The call has to throw just this exception, by a throw of its own, and to leave the street as it was. */
     static void refuses(String call, Hatpitch street, Class<? extends RuntimeException> due, Call body) {
         looks++;
         String before = Picture.of(street);
-        Class<?> got = null;
+        RuntimeException got = null;
         try {
             body.run();
         } catch (RuntimeException e) {
-            got = e.getClass();
+            got = e;
         }
-        if (got != due) {
+        if (got == null || got.getClass() != due) {
             tell(call + " threw " + got + ", due is " + due);
+        } else if (!isThrownByHatpitch(got)) {
+            tell(call + " left its exception to the machine: " + got);
         }
         sameText("the street behind " + call, Picture.of(street), before);
+    }
+
+    /** A list's exception comes out of the library, and a division's says so. */
+    static boolean isThrownByHatpitch(RuntimeException e) {
+        StackTraceElement[] trace = e.getStackTrace();
+        return trace.length > 0
+                && trace[0].getClassName().startsWith("Hatpitch")
+                && e.getMessage() != null
+                && !e.getMessage().equals("/ by zero");
     }
 
     static void tell(String fault) {

@@ -59,7 +59,8 @@ public final class ModelRunsTest {
         int yard = dice.nextInt(10) == 0 ? number(0, 99) : dice.nextInt(40);
         int echo = number(0, 9);
         boolean shaded = dice.nextBoolean();
-        both("addPitch " + yard + " " + echo, () -> x.addPitch(yard, echo, shaded), () -> m.addPitch(yard, echo, shaded));
+        both("addPitch " + yard + " " + echo,
+                () -> x.addPitch(yard, echo, shaded), () -> m.addPitch(yard, echo, shaded));
     }
 
     private void addAct() {
@@ -213,7 +214,18 @@ public final class ModelRunsTest {
     }
 
     private void both(String call, Supplier<Object> here, Supplier<Object> there) {
-        Expect.sameText("run " + run + ": " + call, answer(here), answer(there));
+        Expect.sameText("run " + run + ": " + call, ownAnswer(call, here), answer(there));
+    }
+
+    private String ownAnswer(String call, Supplier<Object> here) {
+        try {
+            return String.valueOf(here.get());
+        } catch (RuntimeException e) {
+            if (!Expect.isThrownByHatpitch(e)) {
+                Expect.tell("run " + run + ": " + call + " left its exception to the machine: " + e);
+            }
+            return e.getClass().getSimpleName();
+        }
     }
 
     private static String answer(Supplier<Object> call) {

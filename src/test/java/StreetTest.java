@@ -176,6 +176,14 @@ public final class StreetTest {
         Expect.refuses("a ring of eight", up, UNSUPPORTED, () -> up.addCustom(7, 0));
         up.endCustom(3, 4);
         Expect.same("no ring with a gap", up.addCustom(7, 0), true);
+        for (int middle = 0; middle < 3; middle++) {
+            Hatpitch x = actsOnly(3);
+            int first = (middle + 1) % 3;
+            int last = (middle + 2) % 3;
+            x.addCustom(first, middle);
+            x.addCustom(middle, last);
+            Expect.refuses("a ring by way of " + middle, x, UNSUPPORTED, () -> x.addCustom(last, first));
+        }
     }
 
     private static void endCustom() {

@@ -1,5 +1,6 @@
 import java.lang.reflect.Field;
 import java.util.ArrayList;
+import java.util.List;
 
 /**
  * Promise 36 from inside: no call makes a street unsound, so each thing that isSound() looks at is
@@ -62,12 +63,19 @@ public final class SoundnessTest {
         Expect.same("an act on two pitches", x.isSound(), false);
         there.remove(1);
         Expect.same("apart again", x.isSound(), true);
+        x.addPitch(50, 0, false);
+        ArrayList<Object> last = list(at(x, "pitches", 2), "turns");
+        for (Object turn : List.of(here.get(0), here.get(1), there.get(0))) {
+            last.add(turn);
+            Expect.same("an act on another pitch and on the last one", x.isSound(), false);
+            last.clear();
+        }
     }
 
     private static void drawnOrder() throws ReflectiveOperationException {
         Hatpitch x = street();
         int[] drawn = (int[]) get(get(x, "lots"), "drawn");
-        int[][] wrong = {{0, 1, 2}, {2, 1, 0}, {2, 2, 1}, {2, 0, 0}, {2, 0, 3}, {-1, 0, 1}};
+        int[][] wrong = {{0, 1, 2}, {2, 1, 0}, {2, 2, 1}, {2, 0, 0}, {2, 0, 2}, {2, 0, 3}, {-1, 0, 1}};
         for (int[] order : wrong) {
             System.arraycopy(order, 0, drawn, 0, 3);
             Expect.same("an order not allowed", x.isSound(), false);
@@ -83,6 +91,8 @@ public final class SoundnessTest {
             Object second = turns.get(1);
             set(second, "begin", 604);
             Expect.same("begins in the last minute of the one ahead", x.isSound(), false);
+            set(second, "begin", 603);
+            Expect.same("begins ahead of it", x.isSound(), false);
             set(second, "begin", 605);
             Expect.same("begins behind it", x.isSound(), true);
             Object first = turns.get(0);

@@ -130,7 +130,7 @@ public final class BooksEdgesTest {
                 x.join(0, 7)));
     }
 
-    /** Days that are over: on the first one nothing is given, on each other one ten pence more than on the one ahead. */
+    /** Days that are over: on the first one nothing is given, on each other one ten pence more. */
     private static Hatpitch days(int days) {
         Hatpitch x = Streets.of(6, 6);
         for (int pitch = 0; pitch < 6; pitch++) {
@@ -207,8 +207,8 @@ public final class BooksEdgesTest {
             x.addAct(60, 9, 9, 9, true);
             x.seed(2147483646);
         }), sum(0, 9, 0, 99, 0, 2147483646), x -> x.checksum());
-        Edge.answers(p + "turns are gone with the next day", Streets.played(Streets.turns(8)), "1 " + sum(0, 1, 0, 0, 0, 1),
-                x -> Edge.row(x.nextDay(), x.checksum()));
+        Edge.answers(p + "turns are gone with the next day", Streets.played(Streets.turns(8)),
+                "1 " + sum(0, 1, 0, 0, 0, 1), x -> Edge.row(x.nextDay(), x.checksum()));
     }
 
     private static void checksumWraps() {

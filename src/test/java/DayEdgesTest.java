@@ -25,7 +25,8 @@ public final class DayEdgesTest {
         String p = "promise 19, setRain: ";
         Edge.range(p + "from", 600, 1199, Edge.ARGUMENT, Hatpitch::new, (x, n) -> x.setRain(n, 1199));
         Edge.range(p + "to", 600, 1199, Edge.ARGUMENT, Hatpitch::new, (x, n) -> x.setRain(600, n));
-        Edge.range(p + "to, of the last minute,", 1199, 1199, Edge.ARGUMENT, Hatpitch::new, (x, n) -> x.setRain(1199, n));
+        Edge.range(p + "to, of the last minute,", 1199, 1199, Edge.ARGUMENT, Hatpitch::new,
+                (x, n) -> x.setRain(1199, n));
         Edge.range(p + "to, of 700,", 700, 1199, Edge.ARGUMENT, Hatpitch::new, (x, n) -> x.setRain(700, n));
         Edge.refuses(p + "both one too small", new Hatpitch(), Edge.ARGUMENT, x -> x.setRain(599, 599));
         Edge.refuses(p + "both one too large", new Hatpitch(), Edge.ARGUMENT, x -> x.setRain(1200, 1200));

@@ -262,7 +262,8 @@ public final class OrdersEdgesTest {
 
     private static void turnsByLots() {
         String p = "promise 16, turnsByLots: ";
-        Edge.answers(p + "eight acts on one pitch", drawnOf(1, 8), "8 8", x -> Edge.row(x.turnsByLots(), turnsOf(x, 0)));
+        Edge.answers(p + "eight acts on one pitch", drawnOf(1, 8), "8 8",
+                x -> Edge.row(x.turnsByLots(), turnsOf(x, 0)));
         Edge.answers(p + "eight acts on six pitches", drawnOf(6, 8), "8 2 2 1 1 1 1", x -> Edge.row(
                 x.turnsByLots(), turnsOf(x, 0), turnsOf(x, 1), turnsOf(x, 2), turnsOf(x, 3), turnsOf(x, 4),
                 turnsOf(x, 5)));

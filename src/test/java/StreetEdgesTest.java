@@ -77,7 +77,8 @@ public final class StreetEdgesTest {
                 x -> Edge.row(x.addPitch(9, 0, false), x.addPitch(11, 0, false)));
         Edge.refuses(p + "where the first pitch is", Streets.of(3, 0), Edge.UNSUPPORTED, x -> x.addPitch(0, 9, true));
         Edge.refuses(p + "where the last pitch is", Streets.of(3, 0), Edge.UNSUPPORTED, x -> x.addPitch(20, 9, true));
-        Edge.answers(p + "the largest yard is kept", new Hatpitch(), 31L * (31 * (31 * (31 * 7 + 0) + 99) + 0) + 1, x -> {
+        Edge.answers(p + "the largest yard is kept", new Hatpitch(), 31L * (31 * (31 * (31 * 7 + 0) + 99) + 0) + 1,
+                x -> {
             x.addPitch(99, 0, false);
             return x.checksum();
         });
@@ -200,10 +201,12 @@ public final class StreetEdgesTest {
         Edge.answers(p + "the first is 0", Streets.of(0, 0), 0, x -> x.addAct(5, 0, 1, 1, false));
         Edge.answers(p + "the eighth is 7", Streets.of(0, 7), 7, x -> x.addAct(5, 0, 1, 1, false));
         Edge.refuses(p + "a ninth", full(), Edge.STATE, x -> x.addAct(5, 0, 1, 1, false));
-        Edge.refuses(p + "minutes out of range ahead of eight", full(), Edge.ARGUMENT, x -> x.addAct(61, 0, 1, 1, false));
+        Edge.refuses(p + "minutes out of range ahead of eight", full(), Edge.ARGUMENT,
+                x -> x.addAct(61, 0, 1, 1, false));
         Edge.refuses(p + "a loudness out of range ahead of eight", full(), Edge.ARGUMENT,
                 x -> x.addAct(5, 10, 1, 1, false));
-        Edge.refuses(p + "a skill out of range ahead of eight", full(), Edge.ARGUMENT, x -> x.addAct(5, 0, 0, 1, false));
+        Edge.refuses(p + "a skill out of range ahead of eight", full(), Edge.ARGUMENT,
+                x -> x.addAct(5, 0, 0, 1, false));
         Edge.refuses(p + "a line out of range ahead of eight", full(), Edge.ARGUMENT, x -> x.addAct(5, 0, 1, 0, false));
         Edge.answers(p + "after the day was played, too", Streets.played(Streets.of(0, 7)), 7,
                 x -> x.addAct(5, 0, 1, 1, false));
@@ -267,11 +270,15 @@ public final class StreetEdgesTest {
     private static void rings() {
         String p = "promise 8, addCustom: ";
         Edge.refuses(p + "a ring of two", chain(0, 1), Edge.UNSUPPORTED, x -> x.addCustom(1, 0));
-        Edge.refuses(p + "a ring of three by a middle number", chain(0, 1, 2), Edge.UNSUPPORTED, x -> x.addCustom(2, 0));
-        Edge.refuses(p + "a ring of three by the least number", chain(1, 0, 2), Edge.UNSUPPORTED, x -> x.addCustom(2, 1));
-        Edge.refuses(p + "a ring of three by the most number", chain(0, 2, 1), Edge.UNSUPPORTED, x -> x.addCustom(1, 0));
+        Edge.refuses(p + "a ring of three by a middle number", chain(0, 1, 2), Edge.UNSUPPORTED,
+                x -> x.addCustom(2, 0));
+        Edge.refuses(p + "a ring of three by the least number", chain(1, 0, 2), Edge.UNSUPPORTED,
+                x -> x.addCustom(2, 1));
+        Edge.refuses(p + "a ring of three by the most number", chain(0, 2, 1), Edge.UNSUPPORTED,
+                x -> x.addCustom(1, 0));
         Edge.refuses(p + "a ring of eight up", chain(0, 1, 2, 3, 4, 5, 6, 7), Edge.UNSUPPORTED, x -> x.addCustom(7, 0));
-        Edge.refuses(p + "a ring of eight down", chain(7, 6, 5, 4, 3, 2, 1, 0), Edge.UNSUPPORTED, x -> x.addCustom(0, 7));
+        Edge.refuses(p + "a ring of eight down", chain(7, 6, 5, 4, 3, 2, 1, 0), Edge.UNSUPPORTED,
+                x -> x.addCustom(0, 7));
         Edge.refuses(p + "a ring of eight crosswise", chain(3, 6, 0, 7, 2, 5, 1, 4), Edge.UNSUPPORTED,
                 x -> x.addCustom(4, 3));
         Edge.answers(p + "seven in a row and the eighth ahead", chain(0, 1, 2, 3, 4, 5, 6), "true 1", x -> {

@@ -43,11 +43,22 @@ public final class BooksEdgesTest {
         Edge.refuses(p + "one beyond the only act", Streets.of(0, 1), Edge.INDEX, x -> x.money(1));
         Edge.answers(p + "0 at first", Streets.of(0, 8), "0 0", x -> Edge.row(x.money(0), x.money(7)));
         Edge.answers(p + "below 0", fined(6), -120, x -> x.money(0));
+        Edge.answers(p + "far below 0, by 30 days of fines", finedDays(30), -3600, x -> x.money(0));
         Edge.answers(p + "just 0 again", Streets.with(Streets.crowd(false), x -> {
             x.addAct(5, 0, 1, 3, true);
             fined(x, 1);
         }), "20 0", x -> Edge.row(x.of(0, 0, 'c'), x.money(0)));
         Edge.answers(p + "not yet changed by a turn told", Streets.crowd(5, 9, 1), 0, x -> x.money(0));
+    }
+
+    /** The same on one day after another. */
+    private static Hatpitch finedDays(int days) {
+        Hatpitch x = fined(6);
+        for (int day = 1; day < days; day++) {
+            x.nextDay();
+            fined(x, 6);
+        }
+        return x;
     }
 
     private static void fines() {
@@ -69,6 +80,7 @@ public final class BooksEdgesTest {
             x.setLaw(98, 2);
             fined(x, 6);
         }), "210 35 -210", x -> Edge.row(x.fines(), x.sumAt(5), x.money(0)));
+        Edge.answers(p + "of 30 days, of which the diary keeps ten", finedDays(30), 3600, x -> x.fines());
         Edge.answers(p + "of all days", fined(6), "120 1 240 2 240", x -> Edge.row(
                 x.fines(), x.nextDay(), fined(x, 6).fines(), x.nextDay(), x.fines()));
     }
@@ -126,8 +138,8 @@ public final class BooksEdgesTest {
             x.addCustom(7, 0);
             x.join(7, 0);
             x.play();
-        }), "1 true 9 false 2", x -> Edge.row(x.nextDay(), x.setPermit(7, true), x.setLine(7, 9), x.addCustom(7, 0),
-                x.join(0, 7)));
+        }), "1 true 9 false 3 4", x -> Edge.row(x.nextDay(), x.setPermit(7, true), x.setLine(7, 9), x.addCustom(7, 0),
+                x.join(0, 6), x.join(7, 5)));
     }
 
     /** Days that are over: on the first one nothing is given, on each other one ten pence more. */
@@ -180,6 +192,17 @@ public final class BooksEdgesTest {
                 x -> lines(x, 10));
         Edge.answers(p + "of twenty days the first ten are lost", days(20),
                 "190 180 170 160 150 140 130 120 110 100", x -> lines(x, 10));
+        Edge.answers(p + "days on which nothing was given are lines, too", Streets.of(1, 1), "0 0 10 0", x -> {
+            x.setPassers(0, 10, 600);
+            for (int day = 0; day < 4; day++) {
+                if (day == 1) {
+                    x.addTurn(0, 0);
+                }
+                x.play();
+                x.nextDay();
+            }
+            return lines(x, 4);
+        });
         Edge.answers(p + "a day being played changes no line", Streets.played(days(2)), "10 0", x -> lines(x, 2));
     }
 

@@ -5,10 +5,15 @@ import java.lang.reflect.Method;
 import java.lang.reflect.Modifier;
 import java.nio.file.Files;
 import java.nio.file.Path;
+import java.util.ArrayList;
 import java.util.Arrays;
+import java.util.List;
 import java.util.Set;
 import java.util.TreeSet;
+import java.util.regex.MatchResult;
+import java.util.regex.Pattern;
 import java.util.stream.Collectors;
+import java.util.stream.Stream;
 
 /** The public face just as the document gives it, and the rules of the language that a scan can see. */
 public final class FaceTest {
@@ -60,7 +65,9 @@ public final class FaceTest {
         constructors();
         methods();
         fields();
+        sizes();
         source();
+        library();
         Expect.end("FaceTest");
     }
 
@@ -111,6 +118,36 @@ public final class FaceTest {
                 Expect.same(field + " is no static one", Modifier.isStatic(field.getModifiers()), false);
             }
         }
+    }
+
+    private static void sizes() {
+        List<Class<?>> all = new ArrayList<>(List.of(Hatpitch.class.getDeclaredClasses()));
+        all.add(Hatpitch.class);
+        for (Class<?> one : all) {
+            long fields = Stream.of(one.getDeclaredFields()).filter(f -> !Modifier.isStatic(f.getModifiers())).count();
+            Expect.same(one + " has few fields", fields <= 20, true);
+            for (Method method : one.getDeclaredMethods()) {
+                Expect.same(method + " takes few parameters", method.getParameterCount() <= 7, true);
+            }
+        }
+    }
+
+    /** What the source makes, what it calls of the library, and where it writes a text. */
+    private static void library() throws IOException {
+        String text = Files.readString(Path.of("src/main/java/Hatpitch.java"));
+        Expect.sameText("called by their class", found(text, "\\b(Math|Integer|Long|System|Arrays|String)\\.(\\w+)"),
+                "[Integer.bitCount, Math.abs, Math.max, Math.min, System.arraycopy]");
+        Expect.sameText("made", found(text, "\\bnew (\\w+)"), "[new Act, new ArithmeticException, new ArrayList,"
+                + " new Customs, new Day, new Diary, new IllegalArgumentException, new IllegalStateException,"
+                + " new IndexOutOfBoundsException, new Law, new Lots, new NoSuchElementException, new Pitch,"
+                + " new Street, new Turn, new UnsupportedOperationException, new Visit, new Weather, new int]");
+        long texts = text.lines().filter(line -> line.contains("\"") && !line.contains("throw new ")).count();
+        Expect.same("texts that no exception tells", texts, 0);
+    }
+
+    private static String found(String text, String pattern) {
+        return Pattern.compile(pattern).matcher(text).results().map(MatchResult::group)
+                .collect(Collectors.toCollection(TreeSet::new)).toString();
     }
 
     private static void source() throws IOException {

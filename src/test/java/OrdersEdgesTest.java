@@ -391,13 +391,17 @@ public final class OrdersEdgesTest {
         Edge.answers(p + "a custom kept by the last turn", against(), "false", x -> Edge.row(x.exchange(0, 1, 1)));
         Edge.answers(p + "a custom that was ended", against(), "true true", x -> Edge.row(
                 x.endCustom(0, 1), x.exchange(0, 0, 1)));
-        Edge.answers(p + "acts of another pitch that stand so", Streets.with(Streets.of(2, 4), x -> {
-            for (int act = 0; act < 4; act++) {
-                x.addTurn(act / 2, act);
-            }
-            x.addCustom(3, 2);
-            x.addCustom(2, 0);
-        }), true, x -> x.exchange(0, 0, 1));
+        for (int here = 0; here < 2; here++) {
+            int pitch = here;
+            Edge.answers(p + "on pitch " + here + ", acts of the other pitch that stand so", Streets.with(
+                    Streets.of(2, 4), x -> {
+                        for (int act = 0; act < 4; act++) {
+                            x.addTurn(act < 2 ? pitch : 1 - pitch, act);
+                        }
+                        x.addCustom(3, 2);
+                        x.addCustom(2, 0);
+                    }), true, x -> x.exchange(pitch, 0, 1));
+        }
         Edge.answers(p + "a custom that only follows, by an act not there", Streets.with(Streets.of(1, 3), x -> {
             x.addTurn(0, 0);
             x.addTurn(0, 2);

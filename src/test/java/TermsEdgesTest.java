@@ -255,6 +255,8 @@ public final class TermsEdgesTest {
         Edge.answers(t + "it breaks in the minute ahead of its last", wet(10, 9, 604, 610), "608 39 2 0 true",
                 x -> told(x));
         Edge.answers(t + "it breaks in its last minute, and nothing is given", wet(9, 9, 604, 610), 0, x -> x.play());
+        Edge.answers(t + "the minute in which it breaks counts as drowned", Streets.with(nextToNoise(30, 9, false),
+                x -> x.setRain(603, 700)), "604 12 2 0 true 5", x -> Edge.row(told(x), x.of(0, 0, 'd')));
         Edge.answers(t + "nothing of a broken one is shared", Streets.with(wet(9, 9, 604, 610), x -> {
             x.addAct(5, 0, 1, 1, false);
             x.join(0, 1);

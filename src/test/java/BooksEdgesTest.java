@@ -44,6 +44,8 @@ public final class BooksEdgesTest {
         Edge.answers(p + "0 at first", Streets.of(0, 8), "0 0", x -> Edge.row(x.money(0), x.money(7)));
         Edge.answers(p + "below 0", fined(6), -120, x -> x.money(0));
         Edge.answers(p + "far below 0, by 30 days of fines", finedDays(30), -3600, x -> x.money(0));
+        Edge.answers(p + "far above 0, by 30 days of eight turns of 60 minutes", richDays(30),
+                (30 * 8 * 10080) + " 80640 0 true", x -> Edge.row(x.money(0), x.diary(10), x.fines(), x.isSound()));
         Edge.answers(p + "just 0 again", Streets.with(Streets.crowd(false), x -> {
             x.addAct(5, 0, 1, 3, true);
             fined(x, 1);
@@ -57,6 +59,23 @@ public final class BooksEdgesTest {
         for (int day = 1; day < days; day++) {
             x.nextDay();
             fined(x, 6);
+        }
+        return x;
+    }
+
+    /** By the end of each turn 766 stand there, of whom 206 go, and the others give 18 pence each. */
+    private static Hatpitch richDays(int days) {
+        Hatpitch x = Streets.crowd(false);
+        for (int hour = 11; hour < 20; hour++) {
+            x.setPassers(0, hour, 600);
+        }
+        x.addAct(60, 0, 9, 9, false);
+        for (int day = 0; day < days; day++) {
+            for (int turn = 0; turn < 8; turn++) {
+                x.addTurn(0, 0);
+            }
+            x.play();
+            x.nextDay();
         }
         return x;
     }
